@@ -1357,23 +1357,19 @@ public final class Ambassadors {
                 i++;
             }
             tokenEnd = i;
-            token = keyOrName();
-        }
-
-        private int keyOrName() {
-            if (spells("reason")) return Sign.REASON;
-            if (spells("step")) return Sign.STEP;
-            if (spells("stone")) return Sign.STONE;
-            if (spells("more")) return Sign.MORE;
-            if (spells("far")) return Sign.FAR;
-            if (spells("turn")) return Sign.TURN;
-            if (spells("or")) return Sign.OR;
-            if (spells("and")) return Sign.AND;
-            if (spells("not")) return Sign.NOT;
-            if (spells("allows")) return Sign.FIRST_KEY + ALLOWS;
-            if (spells("worth")) return Sign.FIRST_KEY + WORTH;
-            if (spells("price")) return Sign.FIRST_KEY + PRICE;
-            return Sign.WRONG;
+            token = spells("reason") ? Sign.REASON
+                : spells("step") ? Sign.STEP
+                : spells("stone") ? Sign.STONE
+                : spells("more") ? Sign.MORE
+                : spells("far") ? Sign.FAR
+                : spells("turn") ? Sign.TURN
+                : spells("or") ? Sign.OR
+                : spells("and") ? Sign.AND
+                : spells("not") ? Sign.NOT
+                : spells("allows") ? Sign.FIRST_KEY + ALLOWS
+                : spells("worth") ? Sign.FIRST_KEY + WORTH
+                : spells("price") ? Sign.FIRST_KEY + PRICE
+                : Sign.WRONG;
         }
 
         private boolean spells(String word) {

@@ -29,6 +29,11 @@ public final class LotsTest {
         Check.due("the last seed", x.drawn(99999, 1, 0), 18);
         Check.due("nothing moved", x.count(2) + x.count(3) + x.count(4), 0);
         Check.due("no reason came", x.told(0, 3), -1);
+        // seed 1: 96542 by 16 is 6033, modulo 4 reason 1; 96542 of 5 number 2: 0
+        x = Check.with(0, 0);
+        Check.law(x, "allows reason = 1 and step = 2 ; worth 0 ; price 0 ;");
+        Check.due("bound by reason 1", x.drawn(1, 2, 0), 2);
+        Check.due("seed 0: bound by reason 0", x.drawn(0, 2, 0), 18);
         // none may be gone: 0, whatever the lot
         x = Check.with(0, 0);
         Check.law(x, "allows 0 ; worth 0 ; price 0 ;");

@@ -79,6 +79,13 @@ public final class TextTest {
         faultAt("|allowsx 1 ; worth 2 ; price 3 ;");
         faultAt("allows |reasonstep ; worth 2 ; price 3 ;");
         faultAt("allows |Step ; worth 2 ; price 3 ;");
+        faultAt("allows |stepz ; worth 2 ; price 3 ;");
+        faultAt("allows |astep ; worth 2 ; price 3 ;");
+        faultAt("allows step|{ ; worth 2 ; price 3 ;");
+        faultAt("allows step|` ; worth 2 ; price 3 ;");
+        faultAt("allows |ste ; worth 2 ; price 3 ;");
+        faultAt("allows 9|: ; worth 2 ; price 3 ;");
+        faultAt("allows 9|step ; worth 2 ; price 3 ;");
         faultAt("allows |12345 ; worth 2 ; price 3 ;");
         faultAt("allows |00001 ; worth 2 ; price 3 ;");
         faultAt("allows 1 |\t; worth 2 ; price 3 ;");
@@ -184,6 +191,14 @@ public final class TextTest {
         value("not 1 or 1", 1, 1);
         value("(1 < 2) + (3 < 4)", 2, 1);
         value("1 + 1 < 1 * 3", 1, 1);
+        // as much as can be open at once, each part of it counting
+        String deep = "0or1and1<1+1*(0or1and1<1+1*(0or1and1<1+1*(0or1and1<1+1*(0or1and1<1+1*(0or1and1<1+1*1)))))";
+        Ambassadors x = Check.with(0, 0);
+        Check.law(x, "allows " + deep + ";worth 1;price 2;");
+        Check.due("deep", x.asks(0, 0, 4, 0), 1);
+        x = Check.with(0, 0);
+        Check.law(x, "allows " + deep.replace("1*1)", "1*0)") + ";worth 1;price 2;");
+        Check.due("deep, with a 0 in the middle", x.asks(0, 0, 4, 0), 0);
         value("9999 * 9999 * 9999 * 0001", 9999 * 9999 * 9999 < 0 ? -99 : 99, 1);
         value("9999*9999*9999 = " + "- 1023 * 1000", 0, 0);
         value("4096 * 4096 * 256", 0, 0);

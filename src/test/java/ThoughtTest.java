@@ -66,6 +66,20 @@ public final class ThoughtTest {
         Check.law(x, "allows reason = 2 ; worth stone = 4 ; price 0 ;");
         bests("one turn", x, 1, 17, -2, 0);
         bests("two turns", x, 2, 4, 2, 2);
+        // a further reason is none
+        x = Check.with(0, 0);
+        Check.law(x, "allows reason = 4 ; worth stone = 4 ; price 0 ;");
+        bests("no reason helps", x, 2, 17, -2, 0);
+        // two envoys, three turns: -2, -1, and 2 to the left, which reason 1 alone lets one go
+        x = Check.with(0, 0, 5, 0);
+        Check.law(x, "allows reason = 1 and step = 2 ; worth stone = 14 ; price 0 ;");
+        bests("three turns of two", x, 3, 14, -2, 1);
+        x = Check.with(1, 9);
+        Check.law(x, "allows 1 ; worth stone = 4 ; price 0 ;");
+        bests("four to the right", x, 1, 4, 4, 0);
+        Check.law(x, "allows 1 ; worth stone = 15 ; price 0 ;");
+        bests("four to the left", x, 1, 15, -4, 0);
+        bests("three turns, the first that does", x, 3, 15, -4, 0);
     }
 
     private static void force() {
@@ -94,6 +108,7 @@ public final class ThoughtTest {
         Check.due("it can", x.canForce(1, 3, 3), 1);
         Check.due("it can't", x.canForce(1, 4, 3), 0);
         Check.due("nothing changed", x.count(2) + x.count(3) * 10, 0);
+        Check.due("four either way", Check.with(1, 9).reach(1, 1), Check.bits(15, 16, 17, 18, 0, 1, 2, 3, 4));
         // a law by the turn; reasons stay as they are
         x = Check.with(0, 0);
         x.move(0, 1);
