@@ -2,6 +2,7 @@
 final class Check {
     private static int asked;
     private static int wrong;
+    private static String ahead = "";
 
     private Check() {}
 
@@ -9,8 +10,17 @@ final class Check {
         asked++;
         if (got != want) {
             wrong++;
-            System.out.println(call + " answered " + got + ", due is " + want);
+            System.out.println(ahead + call + " answered " + got + ", due is " + want);
         }
+    }
+
+    /** What stands ahead of each answer that is not as due, from now on. */
+    static void named(String name) {
+        ahead = name;
+    }
+
+    static int asked() {
+        return asked;
     }
 
     static void finish() {
