@@ -44,6 +44,9 @@ final class EdgeCall extends Edge {
                 against(12, 5, 2, false);
                 against(12, 4, 4, false);
                 against(12, 4, 3, true);
+                against(12, 8, -1, true);
+                against(12, 8, 1, false);
+                against(12, 11, -2, true);
                 against(3, 0, 4, true);
                 against(3, 1, 1, false);
                 against(3, 1, 4, false);

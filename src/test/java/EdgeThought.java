@@ -284,6 +284,12 @@ final class EdgeThought extends Edge {
             y.set(0, 3);
             due("all of 3 places", y.reach(1, 1), 7);
             due("where it is", y.reach(1, 0), 1);
+            // whatever an image keeps
+            y.image();
+            y.set(0, 19);
+            due("from 0, two turns", y.reach(1, 2), bits(11, 12, 13, 14, 15, 16, 17, 18, 0, 1, 2, 3, 4, 5, 6, 7, 8));
+            y.set(1, 18);
+            due("from 18", y.reach(1, 1), bits(14, 15, 16, 17, 18, 0, 1, 2, 3));
         });
         sentence(22, "BAD; STATE likewise.", () -> {
             for (int m = 0; m <= 5; m++) {
