@@ -55,6 +55,16 @@ final class EdgeLots extends Edge {
                     due("two moves by " + seed, y.drawn(seed, 2, 0), 9 + a + b);
                     due("three moves by " + seed, y.drawn(seed, 3, 0), 9 + a + b - c);
                 }
+                // from now on: in turn 1, so that the second is to the left
+                Used now = by("1", 0, 0);
+                now.set(1, 9);
+                now.move(0, 0);
+                for (int seed : seeds) {
+                    int a = (int) (lot(seed, 0) % 5) - 2;
+                    int b = (int) (lot(seed, 1) % 5) - 2;
+                    due("one move in turn 1 by " + seed, now.drawn(seed, 1, 0), 9 + a);
+                    due("two moves from turn 1 on by " + seed, now.drawn(seed, 2, 0), 9 + a - b);
+                }
                 asking("games", States::rich, z -> z.drawn(5, 40, 0) + z.odds(7, 4050, 1, 0));
                 asking("games", States::full, z -> z.drawn(5, 40, 0) + z.odds(7, 4050, 1, 0));
             });
@@ -68,6 +78,19 @@ final class EdgeLots extends Edge {
             Used y = by("0", 3, 0);
             y.move(2, 0);
             due("a rash one stays then, too", y.drawn(3, 40, 0), 2);
+            // it is a MOVE, with the REASON of its LOT: by 3 one is free then
+            Used z = by("reason=3", 0, 0);
+            z.set(1, 9);
+            for (int seed = 0; seed < 40; seed++) {
+                int place = 9;
+                long last = 3;
+                for (int k = 0; k < 3; k++) {
+                    int step = last == 3 ? (int) (lot(seed, k) % 5) - 2 : 0;
+                    place += k == 2 ? -step : step;
+                    last = lot(seed, k) / 16 % 4;
+                    due("move " + k + " by " + seed, z.drawn(seed, k + 1, 0), place);
+                }
+            }
         });
         sentence(TERMS, "; REASON (LOT by 16, cut) modulo 4.", () -> {
             for (int reason = 0; reason < 4; reason++) {

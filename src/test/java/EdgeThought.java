@@ -48,6 +48,7 @@ final class EdgeThought extends Edge {
                 is("reason " + reason, by("reason=" + reason, "stone=4", 0, 0), 2, 4, 2, reason);
                 is("from reason " + reason + " on", by("reason=" + reason + " or reason=3", "stone=4", 0, 0), 2, 4, 2, reason);
             }
+            is("each reason of a step ahead of the next step", by("reason=1 or stone=2", "stone=3", 0, 0), 2, 3, 1, 1);
             is("no reason behind 3", by("reason=4", "stone=4", 0, 0), 2, 17, -2, 0);
             is("no reason ahead of 0", by("reason<0", "stone=4", 0, 0), 2, 17, -2, 0);
             Used x = by("step=1", "stone=17", 0, 0);
@@ -324,6 +325,10 @@ final class EdgeThought extends Edge {
                     law(z, "allows 0;worth 0;price 0;");
                     loose("a sly one is not bound by " + reason, z, 0, reason, 5);
                 }
+                Used now = by("turn=0", "0", 0, 0, 0, 0);
+                loose("now, in the turn of the other", now, 1, 0, 5);
+                now.move(0, 0);
+                loose("now, in one's own turn", now, 1, 0, 0);
                 Used none = with(0, 0);
                 law(none, "allows 0;worth 0;price 0;");
                 loose("none by any, the first", none, 0, 0, 0);

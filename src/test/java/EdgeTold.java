@@ -171,6 +171,9 @@ final class EdgeTold extends Edge {
                 due("the last of twenty, in turn 20, to the left", x.end(0, 0), 13);
                 x.cell(0, 39, 3);
                 due("where the stone is", x.count(2), 17);
+                due("a call", x.call(2, 0), 2);
+                x.set(1, 7);
+                ends("also one whose CARD is shown wishes 1", x, 7, 1, 2);
             });
         likewise(26, "BAD, -11, BAD, STATE likewise", "end", (x, s) -> x.end(s, 0), (x, s) -> x.end(s, 3));
         sentence(26, "-7: what.", () -> {
@@ -335,6 +338,16 @@ final class EdgeTold extends Edge {
             row(x, 0, 0, 2, 1, 1, 1);
             due("whatever the law is", x.laws(0), bits(0, 2));
             due("the law", x.count(6), 5);
+            Used y = plain(1);
+            text(y, "allows reason=1;worth 0;price 0;");
+            row(y, 0, 0, 1, 0);
+            row(y, 1, 0, 0, 0);
+            y.move(0, 2);
+            due("bound by the reason that was given: to go", y.laws(0), bits(0));
+            due("to stay", y.laws(1), 0);
+            y.move(0, 1);
+            due("by reason 1 to go", y.laws(0), bits(0, 1));
+            due("to stay", y.laws(1), bits(1));
         });
         likewise(29, "BAD, -11, BAD, STATE likewise.", "laws", (x, s) -> x.laws(s), null);
     }
